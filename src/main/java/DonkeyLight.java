@@ -63,7 +63,7 @@ public final class DonkeyLight {
         history.reset();
         nights.reset(coast);
         refusedSteps = 0;
-        return coast.many(Coast.SHIP);
+        return coast.many.get(Coast.SHIP);
     }
 
     public int law(int n) throws IllegalArgumentException {
@@ -116,7 +116,7 @@ public final class DonkeyLight {
     public int told(int what) throws IllegalArgumentException {
         needWithin(what, 0, 12);
         if (what <= 4) {
-            return coast.many(what);
+            return coast.many.get(what);
         }
         if (what == 11) {
             return log.lines();
@@ -178,9 +178,8 @@ public final class DonkeyLight {
         needWithin(cell, 0, MOST_CELLS - 1);
         needWithin(night, 0, Nights.LAST_NIGHT);
         needWithin(fog, 0, 1);
-        law.tellShip(coast, ship);
         law.tellNight(night, fog);
-        law.tellMinute(seen, dark, minute, cell);
+        law.tellShip(coast, ship, seen, dark, minute, cell);
         return law.steersIn();
     }
 
@@ -206,7 +205,7 @@ public final class DonkeyLight {
     public int safe() {
         passing.begin(coast, law, nights);
         int ships = 0;
-        for (int ship = 0; ship < coast.many(Coast.SHIP); ship++) {
+        for (int ship = 0; ship < coast.many.get(Coast.SHIP); ship++) {
             if (passing.struckIn(coast, law, ship) == NONE) {
                 ships |= 1 << ship;
             }
@@ -223,7 +222,7 @@ public final class DonkeyLight {
 
     public int save(int what) throws IllegalArgumentException {
         needWithin(what, 0, 2);
-        if (coast.many(Coast.CELL) == 0) {
+        if (coast.many.get(Coast.CELL) == 0) {
             return NONE;
         }
         plans.placeLamp(coast, law, nights, passing);
@@ -301,7 +300,7 @@ public final class DonkeyLight {
     public int drawn(int cell) throws NoSuchElementException {
         needThere(Coast.CELL, cell);
         int ships = 0;
-        for (int ship = 0; ship < coast.many(Coast.SHIP); ship++) {
+        for (int ship = 0; ship < coast.many.get(Coast.SHIP); ship++) {
             if (coast.strikes(ship, cell)) {
                 ships |= 1 << ship;
             }
@@ -351,7 +350,7 @@ public final class DonkeyLight {
         needWithin(what, 0, 1);
         int best = NONE;
         int most = NONE;
-        for (int cell = 0; cell < coast.many(Coast.CELL); cell++) {
+        for (int cell = 0; cell < coast.many.get(Coast.CELL); cell++) {
             int flashes = flashesSeen(cell, cell);
             if (flashes > most) {
                 best = cell;
@@ -366,7 +365,7 @@ public final class DonkeyLight {
         needWithin(what, 0, 2);
         passing.begin(coast, law, nights);
         int sum = 0;
-        for (int ship = 0; ship < coast.many(Coast.SHIP); ship++) {
+        for (int ship = 0; ship < coast.many.get(Coast.SHIP); ship++) {
             int where = hasBit(ships, ship) ? passing.struckIn(coast, law, ship) : NONE;
             if (where != NONE) {
                 sum += wreckNumber(ship, where, what);
@@ -452,7 +451,7 @@ public final class DonkeyLight {
     }
 
     private void needThere(int kind, int index) {
-        if (index < 0 || index >= coast.many(kind)) {
+        if (index < 0 || index >= coast.many.get(kind)) {
             missingCalls++;
             throw new NoSuchElementException("no such one stands on the coast");
         }
@@ -466,7 +465,7 @@ public final class DonkeyLight {
     }
 
     private void needShips(int ships) {
-        needWithin(ships, 0, (1 << coast.many(Coast.SHIP)) - 1);
+        needWithin(ships, 0, (1 << coast.many.get(Coast.SHIP)) - 1);
     }
 
     private int flashesSeen(int cell, int minute) {
@@ -740,6 +739,8 @@ public final class DonkeyLight {
         private static final int SIGHT_WITHOUT = 2;
         private static final String WORDS = "cell light donkey ship door sight";
 
+        /** How many there are of each kind. */
+        final Row many = new Row(KINDS);
         final Row reefs = new Row(MOST_CELLS);
         final Row lightCells = new Row(MOST_LIGHTS);
         final Row lightPeriods = new Row(MOST_LIGHTS);
@@ -749,11 +750,11 @@ public final class DonkeyLight {
         final Row crew = new Row(MOST_SHIPS);
         final Row trust = new Row(MOST_SHIPS);
         final Row draught = new Row(MOST_SHIPS);
-        private final Row counts = new Row(KINDS);
         private final Row heads = new Row(MOST_DOORS);
         private int sight = SIGHT_WITHOUT;
 
         void become(Coast other) {
+            many.become(other.many);
             reefs.become(other.reefs);
             lightCells.become(other.lightCells);
             lightPeriods.become(other.lightPeriods);
@@ -763,13 +764,8 @@ public final class DonkeyLight {
             crew.become(other.crew);
             trust.become(other.trust);
             draught.become(other.draught);
-            counts.become(other.counts);
             heads.become(other.heads);
             sight = other.sight;
-        }
-
-        int many(int kind) {
-            return counts.get(kind);
         }
 
         int sight() {
@@ -790,7 +786,7 @@ public final class DonkeyLight {
         }
 
         void readFrom(Tape text) {
-            counts.clear();
+            many.clear();
             sight = SIGHT_WITHOUT;
             for (int ahead = 0; ahead <= MOST_CLAUSES && text.fine() && !text.ended(); ahead++) {
                 readClause(text, ahead);
@@ -799,15 +795,15 @@ public final class DonkeyLight {
 
         private void readClause(Tape text, int ahead) {
             int kind = text.wordOf(WORDS);
-            if (ahead >= MOST_CLAUSES || many(kind) >= mostOf(kind)) {
+            if (ahead >= MOST_CLAUSES || many.get(kind) >= mostOf(kind)) {
                 text.blameItem(Tape.TOO_MANY);
             }
             if (!text.fine()) {
                 return;
             }
-            readNumbers(text, kind, many(kind));
+            readNumbers(text, kind, many.get(kind));
             text.require(text.take(';'));
-            counts.add(kind, 1);
+            many.add(kind, 1);
         }
 
         private static int mostOf(int kind) {
@@ -833,11 +829,11 @@ public final class DonkeyLight {
                     reefs.set(index, text.numberIn(0, 9));
                     break;
                 case LIGHT:
-                    lightCells.set(index, text.numberIn(0, many(CELL) - 1));
+                    lightCells.set(index, text.numberIn(0, many.get(CELL) - 1));
                     lightPeriods.set(index, text.numberIn(1, LONGEST_PERIOD));
                     break;
                 case DONKEY:
-                    donkeyCells.set(index, text.numberIn(0, many(CELL) - 1));
+                    donkeyCells.set(index, text.numberIn(0, many.get(CELL) - 1));
                     donkeyPeriods.set(index, text.numberIn(1, LONGEST_PERIOD));
                     break;
                 case SHIP:
@@ -870,7 +866,7 @@ public final class DonkeyLight {
 
         int allReefs() {
             int all = 0;
-            for (int cell = 0; cell < many(CELL); cell++) {
+            for (int cell = 0; cell < many.get(CELL); cell++) {
                 all += reefs.get(cell);
             }
             return all;
@@ -879,7 +875,7 @@ public final class DonkeyLight {
         int longestReefFirst() {
             int first = NONE;
             int longest = 0;
-            for (int cell = 0; cell < many(CELL); cell++) {
+            for (int cell = 0; cell < many.get(CELL); cell++) {
                 int row = reefRowFrom(cell);
                 if (row > longest) {
                     first = cell;
@@ -891,7 +887,7 @@ public final class DonkeyLight {
 
         int reefRowFrom(int first) {
             int row = 0;
-            for (int cell = first; cell >= 0 && cell < many(CELL) && reefs.get(cell) > 0; cell++) {
+            for (int cell = first; cell >= 0 && cell < many.get(CELL) && reefs.get(cell) > 0; cell++) {
                 row++;
             }
             return row;
@@ -902,18 +898,18 @@ public final class DonkeyLight {
         }
 
         int rests() {
-            int many = 0;
-            for (int they = 0; they < many(CELL); they++) {
-                for (int he = 0; he < many(CELL); he++) {
-                    many += isRest(they, he) ? 1 : 0;
+            int found = 0;
+            for (int they = 0; they < many.get(CELL); they++) {
+                for (int he = 0; he < many.get(CELL); he++) {
+                    found += isRest(they, he) ? 1 : 0;
                 }
             }
-            return many;
+            return found;
         }
 
         int firstRest() {
-            for (int they = 0; they < many(CELL); they++) {
-                for (int he = 0; he < many(CELL); he++) {
+            for (int they = 0; they < many.get(CELL); they++) {
+                for (int he = 0; he < many.get(CELL); he++) {
                     if (isRest(they, he)) {
                         return 100 * they + he;
                     }
@@ -927,7 +923,7 @@ public final class DonkeyLight {
                 return false;
             }
             int have = carriersHave(they, he);
-            for (int cell = 0; cell < many(CELL); cell++) {
+            for (int cell = 0; cell < many.get(CELL); cell++) {
                 boolean theyGain = reefs.get(cell) > 0 && carriersHave(cell, he) > have;
                 boolean heGains = carriersHave(they, cell) < have;
                 if (theyGain || heGains) {
@@ -939,13 +935,13 @@ public final class DonkeyLight {
 
         int shareOf(int door, int n) {
             int all = 0;
-            for (int other = 0; other < many(DOOR); other++) {
+            for (int other = 0; other < many.get(DOOR); other++) {
                 all += heads.get(other);
             }
             int over = n;
             int ahead = 0;
             int mine = left(n * heads.get(door), all);
-            for (int other = 0; other < many(DOOR); other++) {
+            for (int other = 0; other < many.get(DOOR); other++) {
                 int theirs = left(n * heads.get(other), all);
                 over -= cut(n * heads.get(other), all);
                 ahead += theirs > mine || theirs == mine && other < door ? 1 : 0;
@@ -955,7 +951,7 @@ public final class DonkeyLight {
 
         void markMadeRows(int n, Row made) {
             made.clear();
-            for (int donkey = 0; donkey < many(DONKEY); donkey++) {
+            for (int donkey = 0; donkey < many.get(DONKEY); donkey++) {
                 int period = donkeyPeriods.get(donkey);
                 for (int start = 0; start < period; start++) {
                     made.set(rowFrom(start, period, n), 1);
@@ -1017,18 +1013,15 @@ public final class DonkeyLight {
             size = other.size;
         }
 
-        void tellShip(Coast coast, int ship) {
-            inputs.set(TRUST, coast.trust.get(ship));
-            inputs.set(DRAUGHT, coast.draught.get(ship));
-            inputs.set(CREW, coast.crew.get(ship));
-        }
-
         void tellNight(int night, int fog) {
             inputs.set(NIGHT, night);
             inputs.set(FOG, fog);
         }
 
-        void tellMinute(int seen, int dark, int minute, int cell) {
+        void tellShip(Coast coast, int ship, int seen, int dark, int minute, int cell) {
+            inputs.set(TRUST, coast.trust.get(ship));
+            inputs.set(DRAUGHT, coast.draught.get(ship));
+            inputs.set(CREW, coast.crew.get(ship));
             inputs.set(SEEN, seen);
             inputs.set(DARK, dark);
             inputs.set(MINUTE, minute);
@@ -1195,14 +1188,14 @@ public final class DonkeyLight {
             switch (kind) {
                 case DOWSE:
                 case LIGHT:
-                    firsts.set(step, text.numberIn(0, coast.many(Coast.LIGHT) - 1));
+                    firsts.set(step, text.numberIn(0, coast.many.get(Coast.LIGHT) - 1));
                     break;
                 case LEAD:
-                    firsts.set(step, text.numberIn(0, coast.many(Coast.DONKEY) - 1));
-                    seconds.set(step, text.numberIn(0, coast.many(Coast.CELL) - 1));
+                    firsts.set(step, text.numberIn(0, coast.many.get(Coast.DONKEY) - 1));
+                    seconds.set(step, text.numberIn(0, coast.many.get(Coast.CELL) - 1));
                     break;
                 case PASS:
-                    firsts.set(step, text.numberIn(0, coast.many(Coast.SHIP) - 1));
+                    firsts.set(step, text.numberIn(0, coast.many.get(Coast.SHIP) - 1));
                     break;
                 case AGAIN:
                     readAgain(text, coast, open, step);
@@ -1264,7 +1257,7 @@ public final class DonkeyLight {
                 case LEAD:
                     return nights.lead(first, seconds.get(step));
                 case PASS:
-                    if (nights.passed(first) || coast.many(Coast.CELL) == 0) {
+                    if (nights.passed(first) || coast.many.get(Coast.CELL) == 0) {
                         return false;
                     }
                     passing.pass(coast, law, nights, first);
@@ -1298,8 +1291,8 @@ public final class DonkeyLight {
 
         void reset(Coast coast) {
             row.clear();
-            row.set(BURNING, (1 << coast.many(Coast.LIGHT)) - 1);
-            for (int donkey = 0; donkey < coast.many(Coast.DONKEY); donkey++) {
+            row.set(BURNING, (1 << coast.many.get(Coast.LIGHT)) - 1);
+            for (int donkey = 0; donkey < coast.many.get(Coast.DONKEY); donkey++) {
                 row.set(STANDS + donkey, coast.donkeyCells.get(donkey));
             }
         }
@@ -1370,7 +1363,7 @@ public final class DonkeyLight {
 
         int lightsIn(Coast coast, int cell) {
             int many = 0;
-            for (int light = 0; light < coast.many(Coast.LIGHT); light++) {
+            for (int light = 0; light < coast.many.get(Coast.LIGHT); light++) {
                 many += burns(light) && coast.lightCells.get(light) == cell ? 1 : 0;
             }
             return many;
@@ -1378,7 +1371,7 @@ public final class DonkeyLight {
 
         int donkeysIn(Coast coast, int cell) {
             int many = 0;
-            for (int donkey = 0; donkey < coast.many(Coast.DONKEY); donkey++) {
+            for (int donkey = 0; donkey < coast.many.get(Coast.DONKEY); donkey++) {
                 many += get(STANDS + donkey) == cell ? 1 : 0;
             }
             return many;
@@ -1390,7 +1383,7 @@ public final class DonkeyLight {
 
         int lightFlashes(Coast coast, int cell, int minute, int reach) {
             int burning = row.get(BURNING);
-            int lights = coast.many(Coast.LIGHT);
+            int lights = coast.many.get(Coast.LIGHT);
             int many = 0;
             for (int light = 0; light < lights; light++) {
                 int at = coast.lightCells.get(light);
@@ -1401,8 +1394,8 @@ public final class DonkeyLight {
         }
 
         int donkeyFlashes(Coast coast, int cell, int minute, int reach) {
-            int last = coast.many(Coast.CELL) - 1;
-            int donkeys = coast.many(Coast.DONKEY);
+            int last = coast.many.get(Coast.CELL) - 1;
+            int donkeys = coast.many.get(Coast.DONKEY);
             int many = 0;
             for (int donkey = 0; donkey < donkeys; donkey++) {
                 int at = Math.min(row.get(STANDS + donkey) + minute, last);
@@ -1426,11 +1419,12 @@ public final class DonkeyLight {
             steers.clear();
             law.tellNight(nights.row.get(Nights.NIGHT), nights.row.get(Nights.FOG));
             int reach = nights.reach(coast);
-            for (int m = 0; m < coast.many(Coast.CELL); m++) {
+            int cells = coast.many.get(Coast.CELL);
+            for (int m = 0; m < cells; m++) {
                 int flashes = nights.lightFlashes(coast, m, m, reach) + nights.donkeyFlashes(coast, m, m, reach);
                 seenIn.set(m, flashes);
             }
-            reckonDark(coast);
+            reckonDark(cells);
         }
 
         int seenIn(int minute) {
@@ -1442,9 +1436,9 @@ public final class DonkeyLight {
         }
 
         /** Of no ship in particular: all that pass see the same. */
-        void reckonDark(Coast coast) {
+        void reckonDark(int cells) {
             int latest = 0;
-            for (int m = 0; m < coast.many(Coast.CELL); m++) {
+            for (int m = 0; m < cells; m++) {
                 latest = seenIn.get(m) > 0 ? m : latest;
                 darkIn.set(m, m - latest);
             }
@@ -1457,7 +1451,7 @@ public final class DonkeyLight {
 
         /** A view is dark minutes (0 to 11) or flashes seen (12 on); what else the law asks is fixed by begin(). */
         int struckIn(Coast coast, Law law, int ship) {
-            for (int m = 0; m < coast.many(Coast.CELL); m++) {
+            for (int m = 0; m < coast.many.get(Coast.CELL); m++) {
                 if (!coast.strikes(ship, m)) {
                     continue;
                 }
@@ -1466,7 +1460,7 @@ public final class DonkeyLight {
                 int view = 1 << (seen > 0 ? MOST_CELLS - 1 + seen : darkIn.get(m));
                 if ((known.get(index) & view) == 0) {
                     known.set(index, known.get(index) | view);
-                    tellMinute(coast, law, ship, m);
+                    law.tellShip(coast, ship, seen, darkIn.get(m), m, m);
                     steers.set(index, steers.get(index) | (law.steersIn() ? view : 0));
                 }
                 if ((steers.get(index) & view) != 0) {
@@ -1476,15 +1470,10 @@ public final class DonkeyLight {
             return NONE;
         }
 
-        private void tellMinute(Coast coast, Law law, int ship, int m) {
-            law.tellShip(coast, ship);
-            law.tellMinute(seenIn.get(m), darkIn.get(m), m, m);
-        }
-
         int steeredCells(Coast coast, Law law, int ship, int where) {
             int cells = 0;
             for (int m = 0; m <= lastMinute(coast, where); m++) {
-                tellMinute(coast, law, ship, m);
+                law.tellShip(coast, ship, seenIn.get(m), darkIn.get(m), m, m);
                 cells |= law.steersIn() ? 1 << m : 0;
             }
             return cells;
@@ -1508,7 +1497,7 @@ public final class DonkeyLight {
         }
 
         private static int lastMinute(Coast coast, int where) {
-            return where == NONE ? coast.many(Coast.CELL) - 1 : where;
+            return where == NONE ? coast.many.get(Coast.CELL) - 1 : where;
         }
     }
 
@@ -1539,8 +1528,8 @@ public final class DonkeyLight {
 
         void placeDonkeys(Coast coast, Law law, Nights nights, Passing passing, int ships) {
             int ways = 1;
-            for (int donkey = 0; donkey < coast.many(Coast.DONKEY); donkey++) {
-                ways *= coast.many(Coast.CELL);
+            for (int donkey = 0; donkey < coast.many.get(Coast.DONKEY); donkey++) {
+                ways *= coast.many.get(Coast.CELL);
             }
             passing.begin(coast, law, nights);
             lookWithoutDonkeys(coast, nights);
@@ -1559,15 +1548,15 @@ public final class DonkeyLight {
 
         private void lookWithoutDonkeys(Coast coast, Nights nights) {
             int reach = nights.reach(coast);
-            for (int m = 0; m < coast.many(Coast.CELL); m++) {
+            for (int m = 0; m < coast.many.get(Coast.CELL); m++) {
                 without.set(m, nights.lightFlashes(coast, m, m, reach));
             }
-            for (int donkey = 0; donkey < coast.many(Coast.DONKEY); donkey++) {
+            for (int donkey = 0; donkey < coast.many.get(Coast.DONKEY); donkey++) {
                 int period = coast.donkeyPeriods.get(donkey);
-                for (int cell = 0; cell < coast.many(Coast.CELL); cell++) {
+                for (int cell = 0; cell < coast.many.get(Coast.CELL); cell++) {
                     int minutes = 0;
-                    for (int m = 0; m < coast.many(Coast.CELL); m++) {
-                        int at = Math.min(cell + m, coast.many(Coast.CELL) - 1);
+                    for (int m = 0; m < coast.many.get(Coast.CELL); m++) {
+                        int at = Math.min(cell + m, coast.many.get(Coast.CELL) - 1);
                         minutes |= isSeen(at, period, m, m, reach) ? 1 << m : 0;
                     }
                     donkeySeen.set(donkey * MOST_CELLS + cell, minutes);
@@ -1579,28 +1568,28 @@ public final class DonkeyLight {
         private static int cellsOf(Coast coast, int way) {
             int cells = 0;
             int rest = way;
-            for (int donkey = coast.many(Coast.DONKEY) - 1; donkey >= 0; donkey--) {
-                cells |= left(rest, coast.many(Coast.CELL)) << (4 * donkey);
-                rest = cut(rest, coast.many(Coast.CELL));
+            for (int donkey = coast.many.get(Coast.DONKEY) - 1; donkey >= 0; donkey--) {
+                cells |= left(rest, coast.many.get(Coast.CELL)) << (4 * donkey);
+                rest = cut(rest, coast.many.get(Coast.CELL));
             }
             return cells;
         }
 
         private void showDonkeys(Coast coast, Passing passing, int cells) {
-            for (int m = 0; m < coast.many(Coast.CELL); m++) {
+            for (int m = 0; m < coast.many.get(Coast.CELL); m++) {
                 int flashes = without.get(m);
-                for (int donkey = 0; donkey < coast.many(Coast.DONKEY); donkey++) {
+                for (int donkey = 0; donkey < coast.many.get(Coast.DONKEY); donkey++) {
                     int cell = (cells >> (4 * donkey)) & 15;
                     flashes += (donkeySeen.get(donkey * MOST_CELLS + cell) >> m) & 1;
                 }
                 passing.setSeen(m, flashes);
             }
-            passing.reckonDark(coast);
+            passing.reckonDark(coast.many.get(Coast.CELL));
         }
 
         private static int parishCargo(Coast coast, Law law, Passing passing, int ships) {
             int cargo = 0;
-            for (int ship = 0; ship < coast.many(Coast.SHIP); ship++) {
+            for (int ship = 0; ship < coast.many.get(Coast.SHIP); ship++) {
                 if (hasBit(ships, ship)) {
                     cargo += coast.parishCargo(ship, passing.struckIn(coast, law, ship));
                 }
@@ -1610,12 +1599,12 @@ public final class DonkeyLight {
 
         void placeLamp(Coast coast, Law law, Nights nights, Passing passing) {
             passing.begin(coast, law, nights);
-            for (int m = 0; m < coast.many(Coast.CELL); m++) {
+            for (int m = 0; m < coast.many.get(Coast.CELL); m++) {
                 without.set(m, passing.seenIn(m));
             }
             int reach = nights.reach(coast);
             worth = NONE;
-            for (int cell = 0; cell < coast.many(Coast.CELL); cell++) {
+            for (int cell = 0; cell < coast.many.get(Coast.CELL); cell++) {
                 for (int period = 1; period <= LONGEST_PERIOD; period++) {
                     showLamp(coast, passing, cell, period, reach);
                     int safeShips = safeShips(coast, law, passing);
@@ -1629,15 +1618,15 @@ public final class DonkeyLight {
         }
 
         private void showLamp(Coast coast, Passing passing, int cell, int period, int reach) {
-            for (int m = 0; m < coast.many(Coast.CELL); m++) {
+            for (int m = 0; m < coast.many.get(Coast.CELL); m++) {
                 passing.setSeen(m, without.get(m) + (isSeen(cell, period, m, m, reach) ? 1 : 0));
             }
-            passing.reckonDark(coast);
+            passing.reckonDark(coast.many.get(Coast.CELL));
         }
 
         private static int safeShips(Coast coast, Law law, Passing passing) {
             int many = 0;
-            for (int ship = 0; ship < coast.many(Coast.SHIP); ship++) {
+            for (int ship = 0; ship < coast.many.get(Coast.SHIP); ship++) {
                 many += passing.struckIn(coast, law, ship) == NONE ? 1 : 0;
             }
             return many;
@@ -1676,7 +1665,7 @@ public final class DonkeyLight {
         }
 
         void live(Coast coast, Law law, Passing passing, int many, int q) {
-            int ships = coast.many(Coast.CELL) == 0 ? 0 : coast.many(Coast.SHIP);
+            int ships = coast.many.get(Coast.CELL) == 0 ? 0 : coast.many.get(Coast.SHIP);
             for (int night = 0; night < many; night++) {
                 if (draw(16) < q) {
                     lived.fogComes();
