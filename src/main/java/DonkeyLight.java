@@ -397,7 +397,7 @@ public final class DonkeyLight {
         needWithin(nights, 1, Winter.MOST_NIGHTS);
         needWithin(q, 0, 16);
         needWithin(what, 0, 2);
-        int least = Integer.MAX_VALUE;
+        int least = Winter.MOST_CARGO;
         int most = 0;
         int calm = 0;
         for (int i = 0; i < many; i++) {
@@ -732,6 +732,7 @@ public final class DonkeyLight {
         static final int SHIP = 3;
         static final int DOOR = 4;
         static final int LONGEST_CODE = 8;
+        static final int LARGEST_CARGO = 40;
         /** The five above, and sights, which are counted too but never too many. */
         private static final int KINDS = 6;
         private static final int STRIKING_DEPTH = 6;
@@ -837,7 +838,7 @@ public final class DonkeyLight {
                     donkeyPeriods.set(index, text.numberIn(1, LONGEST_PERIOD));
                     break;
                 case SHIP:
-                    cargo.set(index, text.numberIn(0, 40));
+                    cargo.set(index, text.numberIn(0, LARGEST_CARGO));
                     crew.set(index, text.numberIn(0, 9));
                     trust.set(index, text.numberIn(0, 9));
                     draught.set(index, text.numberIn(0, 9));
@@ -1172,7 +1173,7 @@ public final class DonkeyLight {
 
         private void readSteps(Tape text, Coast coast, int open) {
             for (int i = 0; i < WORK_BYTES && text.fine() && !text.ended(); i++) {
-                if (open > 0 && text.nextIs(']')) {
+                if (text.nextIs(']')) {
                     return;
                 }
                 readStep(text, coast, open);
@@ -1242,7 +1243,8 @@ public final class DonkeyLight {
         }
 
         private void runAgain(int step, int open, Coast coast, Law law, Nights nights, Passing passing) {
-            for (int time = 0; time < firsts.get(step) && open <= MOST_OPEN; time++) {
+            int times = Math.min(firsts.get(step), MOST_TIMES);
+            for (int time = 0; time < times && open <= MOST_OPEN; time++) {
                 runSteps(step + 1, seconds.get(step), open, coast, law, nights, passing);
             }
         }
@@ -1534,7 +1536,6 @@ public final class DonkeyLight {
             passing.begin(coast, law, nights);
             lookWithoutDonkeys(coast, nights);
             worth = NONE;
-            donkeyCells = 0;
             for (int way = 0; way < ways; way++) {
                 int cells = cellsOf(coast, way);
                 showDonkeys(coast, passing, cells);
@@ -1636,6 +1637,7 @@ public final class DonkeyLight {
     /** Nights by a seed, lived on a copy of what is. */
     private static final class Winter {
         static final int MOST_NIGHTS = 96;
+        static final int MOST_CARGO = MOST_NIGHTS * Coast.LARGEST_CARGO;
 
         private final Nights lived = new Nights();
         private int seed;
@@ -1761,10 +1763,13 @@ public final class DonkeyLight {
 
         int bestMinute() {
             int best = NONE;
-            int fewest = Integer.MAX_VALUE;
+            int fewest = 0;
             for (int minute = 0; minute < MINUTES; minute++) {
-                int worst = told.get(minute) == 0 ? leftAtWorst(minute) : Integer.MAX_VALUE;
-                if (worst < fewest) {
+                if (told.get(minute) != 0) {
+                    continue;
+                }
+                int worst = leftAtWorst(minute);
+                if (best == NONE || worst < fewest) {
                     best = minute;
                     fewest = worst;
                 }

@@ -216,6 +216,45 @@ public final class PromiseTests {
         due("3 the tape stays", x.count(1), 20);
         ask("3 none of it", () -> x.coast(0), 0);
         due("3 the tape is empty", x.count(1), 0);
+        smallerBehindLarger();
+        cutShort("cell 1;cell 2;", 7, 0, -1);
+        cutShort("cell 1;cell 2;", 6, -9, 6);
+        cutShort("cell 1 ;cell 2;", 6, -9, 6);
+        cutShort("cell 11;", 6, -9, 6);
+        cutShort("cell 1;", 5, -9, 5);
+        cutShort("cell  1;", 5, -9, 5);
+        cutShort("cell 1;", 4, -9, 4);
+        cutShort("cell 1;", 3, -9, 0);
+    }
+
+    /** What stands on the tape behind the text is no part of it. */
+    private static void cutShort(String text, int n, int want, int place) {
+        DonkeyLight x = new DonkeyLight();
+        feedText(x, text);
+        ask("3 the first " + n + " of " + text, () -> x.coast(n), want);
+        due("3 fault", x.fault(), place);
+        due("3 the tape is empty", x.count(1), 0);
+    }
+
+    private static void smallerBehindLarger() {
+        DonkeyLight x = at(times(12, "cell 9;") + times(6, "light 0 1;") + times(3, "donkey 0 1;")
+                + times(6, "ship 40 0 9 9;") + times(6, "door 9;") + "sight 5;");
+        coast(x, "cell 2;cell 1;light 0 2;donkey 0 3;ship 3 1 0 9;door 2;", 1);
+        told(x, "of the smaller", 2, 1, 1, 1, 1);
+        due("3 reefs", x.reefs(0), 2);
+        due("3 first", x.reefs(1), 0);
+        due("3 all", x.reefs(2), 3);
+        due("3 lights", x.cell(0, 1), 1);
+        due("3 donkeys", x.cell(0, 2), 1);
+        due("3 seen", x.seen(0, 0), 2);
+        due("3 share", x.share(0, 9), 9);
+        due("3 rests", x.carriers(0), 4);
+        due("3 code", x.code(2, 0), 1);
+        law(x, "1", 1);
+        due("3 put", x.put(1, 0), 3);
+        law(x, "minute - 1", 1);
+        due("3 no third cell", x.safe(), 1);
+        due("3 winter", x.winter(1, 9, 0, 1), 0);
     }
 
     private static void promise03Faults() {
@@ -227,6 +266,8 @@ public final class PromiseTests {
         coastFault("cell 1,", 1, 6);
         coastFault("cell 1;;", 1, 7);
         coastFault(" cellar 1;", 1, 1);
+        coastFault("cellz 1;", 1, 0);
+        coastFault("acell 1;", 1, 0);
         coastFault("cel 1;", 1, 0);
         coastFault("Cell 1;", 1, 0);
         coastFault("cEll 1;", 1, 0);
@@ -809,7 +850,35 @@ public final class PromiseTests {
         work(z, "fog;", 1);
         due("19 in fog not so far", z.save(2), 3);
         due("19 no ships", at("cell 1;").save(0), 0);
+        unlikeViews();
         due("19 no ships", at("cell 1;").save(2), 1);
+    }
+
+    /** A lamp that is seen where another would leave as many minutes dark. */
+    private static void unlikeViews() {
+        DonkeyLight ten = at(times(10, "cell 0;") + "cell 9;ship 1 1 1 1;");
+        law(ten, "1 - seen", 1);
+        due("19 not dark in 10", ten.save(0), 1);
+        due("19 not dark in 10", ten.save(1), 8);
+        due("19 not dark in 10", ten.save(2), 1);
+        DonkeyLight eleven = at(times(11, "cell 0;") + "cell 9;ship 1 1 1 1;");
+        law(eleven, "1 - seen", 1);
+        due("19 not dark in 11", eleven.save(0), 1);
+        due("19 not dark in 11", eleven.save(1), 9);
+        law(eleven, "dark * 2 + seen * 99 - 12", 1);
+        due("19 six minutes dark", eleven.save(1), 3);
+        due("19 six minutes dark", eleven.save(2), 1);
+        DonkeyLight nine = at(times(6, "cell 0;") + "cell 9;cell 0;cell 0;cell 9;ship 1 1 1 1;sight 5;");
+        law(nine, "(7 - minute) * seen + (minute - 7) * (1 - seen)", 1);
+        due("19 seen in 9, not in 6", nine.save(0), 1);
+        due("19 seen in 9, not in 6", nine.save(1), 4);
+        due("19 seen in 9, not in 6", nine.save(2), 9);
+        DonkeyLight two = at("cell 0;cell 9;ship 1 1 1 1;light 1 1;light 1 1;light 1 1;sight 0;");
+        law(two, "4 - seen", 1);
+        due("19 one more is four", two.save(0), 1);
+        due("19 one more is four", two.save(1), 1);
+        law(two, "5 - seen", 1);
+        due("19 one more is not five", two.save(0), 0);
     }
 
     private static void promise20And21() {
@@ -880,7 +949,7 @@ public final class PromiseTests {
             {8, 8, 4, 1, 2, 4, 7}, {0, 8, 4, 1, 2, 0, 1}, {16, 0, 16, 1, 1, 0, 1}, {8, 12, 3, 2, 4, 256, 425},
             {16, 5, 5, 0, 6, 1, 1}, {8, 0, 0, 1, 1, 0, 1}, {0, 0, 0, 1, 1, 0, 1}, {4, 0, 0, 0, 0, 1, 4},
             {16, 16, 0, 6, 6, 1, 1}, {8, 16, 16, 6, 6, 1, 2}, {15, 16, 15, 6, 6, 16777216, 17536591},
-            {5, 1, 2, 0, 3, 16875, 47059}};
+            {5, 1, 2, 0, 3, 16875, 47059}, {1, 1, 2, 1, 1, 1, 31}};
         for (int[] w : wants) {
             for (int part = 0; part < 2; part++) {
                 int p = part;
@@ -985,6 +1054,7 @@ public final class PromiseTests {
         due("30 never", x.blind(0), -1);
         work(x, "dowse 0;dowse 1;lead 0 5;lead 1 5;", 4);
         due("30 at once", x.blind(0), 0);
+        due("30 in the last", at("cell 0;cell 0;light 0 1;sight 0;ship 1 1 1 1;").blind(0), 1);
         ask("30 ship", () -> x.blind(3), NSE);
         work(x, "light 0;", 1);
         due("30 behind 2", x.blind(0), 3);
@@ -999,6 +1069,11 @@ public final class PromiseTests {
         due("31 the first of alike ones", three.reefs(1), 2);
         due("31 all", three.reefs(2), 10);
         DonkeyLight none = at("cell 0;");
+        DonkeyLight ahead = at("cell 1;cell 2;cell 0;cell 3;cell 4;");
+        due("31 row at the head", ahead.reefs(0), 2);
+        due("31 first is 0", ahead.reefs(1), 0);
+        DonkeyLight single = at("cell 0;cell 3;");
+        due("31 a row of one", single.reefs(1), 1);
         due("31 none", none.reefs(0), 0);
         due("31 none", none.reefs(1), -1);
         due("31 none", none.reefs(2), 0);
@@ -1050,6 +1125,16 @@ public final class PromiseTests {
         law(x, "night - 500", 1);
         due("34 beyond 500", x.winter(77, 96, 0, 0), 95);
         drawnByHand();
+        due("34 one night", x.winter(77, 1, 0, 0), 0);
+        DonkeyLight alone = at("cell 9;ship 5 0 0 0;ship 5 0 0 0;");
+        law(alone, "1", 1);
+        work(alone, "pass 0;pass 1;", 2);
+        due("34 its cargo only", alone.winter(77, 3, 0, 1), 15);
+        DonkeyLight one = at("cell 2;ship 5 9 0 9;");
+        law(one, "1", 1);
+        work(one, "pass 0;", 1);
+        due("34 of those only", one.winter(77, 1, 0, 2), 7);
+        due("34 one ship is enough", one.winter(77, 2, 0, 0), 2);
         ask("34 nights", () -> x.winter(1, 0, 0, 0), IAE);
         ask("34 nights", () -> x.winter(1, 97, 0, 0), IAE);
         ask("34 q", () -> x.winter(1, 1, -1, 0), IAE);
@@ -1099,6 +1184,7 @@ public final class PromiseTests {
         due("35 some are calm, some not", calm > 0 && calm < 20 ? 1 : 0, 1);
         due("35 of one", x.span(9, 1, 5, 4, 0), x.winter(9, 5, 4, 1));
         due("35 of one", x.span(9, 1, 5, 4, 1), x.winter(9, 5, 4, 1));
+        due("35 one night", x.span(1, 1, 1, 0, 2), 1);
         ask("35 many", () -> x.span(1, 0, 1, 0, 0), IAE);
         ask("35 many", () -> x.span(1, 21, 1, 0, 0), IAE);
         ask("35 nights", () -> x.span(1, 1, 0, 0, 0), IAE);
@@ -1164,6 +1250,27 @@ public final class PromiseTests {
         due("37 undo", x.undo(), 0);
         due("37 stands in 0", x.donkey(0, 0), 0);
         due("37 undo", x.undo(), -1);
+        worksBehindAnImage();
+    }
+
+    private static void worksBehindAnImage() {
+        DonkeyLight x = at(SHORE);
+        work(x, "lead 0 1;", 1);
+        work(x, "lead 0 2;", 1);
+        due("37 image", x.image(), 1);
+        due("37 undo", x.undo(), 1);
+        due("37 undo", x.undo(), 0);
+        work(x, "lead 0 5;", 1);
+        work(x, "lead 0 4;", 1);
+        due("37 image", x.image(), 2);
+        due("37 restore", x.restore(), 1);
+        due("37 stands in 4", x.donkey(0, 0), 4);
+        due("37 undo", x.undo(), 1);
+        due("37 stands in 5", x.donkey(0, 0), 5);
+        due("37 restore", x.restore(), 0);
+        due("37 stands in 2", x.donkey(0, 0), 2);
+        due("37 undo", x.undo(), 1);
+        due("37 stands in 1, not 5", x.donkey(0, 0), 1);
     }
 
     private static void promise38And39() {
