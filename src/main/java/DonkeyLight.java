@@ -1311,23 +1311,23 @@ public final class DonkeyLight {
         }
 
         boolean burns(int light) {
-            return hasBit(get(BURNING), light);
+            return hasBit(row.get(BURNING), light);
         }
 
         boolean passed(int ship) {
-            return hasBit(get(PASSED), ship);
+            return hasBit(row.get(PASSED), ship);
         }
 
         boolean setBurning(int light, boolean burning) {
             if (burns(light) == burning) {
                 return false;
             }
-            row.set(BURNING, get(BURNING) ^ (1 << light));
+            row.set(BURNING, row.get(BURNING) ^ (1 << light));
             return true;
         }
 
         boolean lead(int donkey, int cell) {
-            if (get(STANDS + donkey) == cell) {
+            if (row.get(STANDS + donkey) == cell) {
                 return false;
             }
             row.set(STANDS + donkey, cell);
@@ -1335,7 +1335,7 @@ public final class DonkeyLight {
         }
 
         boolean fogComes() {
-            if (get(FOG) == 1) {
+            if (row.get(FOG) == 1) {
                 return false;
             }
             row.set(FOG, 1);
@@ -1350,7 +1350,7 @@ public final class DonkeyLight {
         }
 
         void hasPassed(Coast coast, int ship, int where) {
-            row.set(PASSED, get(PASSED) | (1 << ship));
+            row.set(PASSED, row.get(PASSED) | (1 << ship));
             if (where == NONE) {
                 return;
             }
@@ -1374,7 +1374,7 @@ public final class DonkeyLight {
         int donkeysIn(Coast coast, int cell) {
             int many = 0;
             for (int donkey = 0; donkey < coast.many.get(Coast.DONKEY); donkey++) {
-                many += get(STANDS + donkey) == cell ? 1 : 0;
+                many += row.get(STANDS + donkey) == cell ? 1 : 0;
             }
             return many;
         }
@@ -1419,7 +1419,7 @@ public final class DonkeyLight {
         void begin(Coast coast, Law law, Nights nights) {
             known.clear();
             steers.clear();
-            law.tellNight(nights.row.get(Nights.NIGHT), nights.row.get(Nights.FOG));
+            law.tellNight(nights.get(Nights.NIGHT), nights.get(Nights.FOG));
             int reach = nights.reach(coast);
             int cells = coast.many.get(Coast.CELL);
             for (int m = 0; m < cells; m++) {

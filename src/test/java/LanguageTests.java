@@ -182,9 +182,9 @@ public final class LanguageTests {
     }
 
     private static void callAll(DonkeyLight x) {
-        // cell 9;ship 9 9 9 0;light 0 1;donkey 0 1;door 4;
+        // A coast with a fault, then "cell 9;ship 9 9 9 0;light 0 1;donkey 0 1;door 4;", a law, work and a log.
         x.feed(0x63656c6c, 0x20393b73, 0x68697020, 0x39203920, 0x39203b3b);
-        x.coast(20);
+        need(x.coast(20) == -9, "the fault of the room test");
         x.feed(0x63656c6c, 0x20393b73, 0x68697020, 0x39203920, 0x39203020);
         x.feed(0x3b6c6967, 0x68742030, 0x20313b64, 0x6f6e6b65, 0x79203020);
         x.feed(0x313b646f, 0x6f722034, 0x3b202020, 0x20202020, 0x20202020);

@@ -13,8 +13,8 @@ import java.util.function.ToIntFunction;
 
 /** Random runs of calls, each answer held against a second, naive reading of the document. */
 public final class OracleRuns {
-    private static final int NSE = 1_000_001;
-    private static final int IAE = 1_000_002;
+    private static final int NSE = Integer.MIN_VALUE;
+    private static final int IAE = Integer.MIN_VALUE + 1;
     private static final int RUNS = 1500;
 
     public static void main(String[] args) {
