@@ -1499,7 +1499,7 @@ public final class BoundaryTests {
             DonkeyLight x = new DonkeyLight();
             is(coast(x, times(12, "cell 9;") + times(6, "light 0 1;") + times(3, "donkey 0 1;") + times(6, "ship 40 0 9 9;")
                     + times(6, "door 9;") + "sight 5;"), 6);
-            String small = "cell 2;cell 1;light 0 2;donkey 0 3;ship 3 1 0 9;door 2;";
+            String small = "cell 2;cell 1;light 0 2;donkey 0 3;ship 3 1 0 9;door 1;door 1;";
             is(coast(x, small), 1);
             same(whole(x), whole(at(small)));
             same(answers(x), answers(at(small)));
