@@ -1,4 +1,3 @@
-import java.io.IOException;
 import java.lang.reflect.InvocationTargetException;
 import java.lang.reflect.Method;
 import java.lang.reflect.Modifier;
@@ -10,7 +9,6 @@ import java.util.ArrayList;
 import java.util.List;
 import java.util.regex.Matcher;
 import java.util.regex.Pattern;
-import javax.tools.ToolProvider;
 
 /** README.md shows calls with what they answer behind them: here they are compiled and asked. */
 public final class ReadmeTests {
@@ -112,12 +110,12 @@ public final class ReadmeTests {
         return all;
     }
 
-    private static int compiledAndRun(Path dir, String source) throws IOException, ReflectiveOperationException {
+    private static int compiledAndRun(Path dir, String source) throws Exception {
         Path file = dir.resolve("Readme.java");
         Files.writeString(file, source);
-        int failed = ToolProvider.getSystemJavaCompiler().run(null, null, null,
-                "-cp", System.getProperty("java.class.path"), "-d", dir.toString(), file.toString());
-        if (failed != 0) {
+        Process javac = new ProcessBuilder("javac", "-cp", System.getProperty("java.class.path"),
+                "-d", dir.toString(), file.toString()).inheritIO().start();
+        if (javac.waitFor() != 0) {
             System.out.println("the Java of README.md can't be compiled");
             return 1;
         }
